@@ -1,0 +1,241 @@
+/** Checkpoints, the window, and what a replica that lagged behind is brought to by them. */
+public final class CheckpointsTest {
+    private static final long AFTER_TWO = 5 + (6 << 4) + (1L << 16) + (1L << 28);
+
+    private final Check check = new Check();
+    private final int[] given = new int[6];
+    private ThreePhaseGroup x;
+
+    public static void main(String[] args) {
+        CheckpointsTest test = new CheckpointsTest();
+        test.settles();
+        test.settlesOneThatLags();
+        test.settlesAtTheGreatest();
+        test.needsThreeOfOneState();
+        test.holdsTheWindow();
+        test.movesTheWindow();
+        test.entersWithAStart();
+        test.check.end();
+    }
+
+    private void begin(String name) {
+        check.part(name);
+        x = new ThreePhaseGroup();
+        java.util.Arrays.fill(given, 0);
+    }
+
+    private void take(int party, int... numbers) {
+        for (int m : numbers) {
+            check.due("deliver(" + m + ", " + party + ")", x.deliver(m, party), true);
+        }
+    }
+
+    private void refuse(int party, int... numbers) {
+        for (int m : numbers) {
+            check.due("deliver(" + m + ", " + party + ")", x.deliver(m, party), false);
+        }
+    }
+
+    private void message(int m, long kind, long sender, long a, long b, long c) {
+        long[] want = {kind, sender, a, b, c};
+        for (int k = 0; k < want.length; k++) {
+            check.due("look(" + m + ", " + k + ")", x.look(m, k), want[k]);
+        }
+    }
+
+    // Gives each message to replicas 0, 1, 2 and to the clients; checkpoints only if they shall come through.
+    private void spread(boolean checkpoints) {
+        int[] parties = {0, 1, 2, 4, 5};
+        for (int round = 0; round < 30; round++) {
+            for (int party : parties) {
+                for (; given[party] < x.messages(); given[party]++) {
+                    if (checkpoints || x.look(given[party], 0) != 7) {
+                        x.deliver(given[party], party);
+                    }
+                }
+            }
+        }
+    }
+
+    private void submitTwo(boolean checkpoints) {
+        x.submit(0, 1, 0, 5);
+        x.submit(1, 1, 1, 6);
+        spread(checkpoints);
+    }
+
+    // The number of the replica's CHECKPOINT for n.
+    private int checkpoint(int r, int n) {
+        for (int m = 0; m < x.messages(); m++) {
+            if (x.look(m, 0) == 7 && x.look(m, 1) == r && x.look(m, 2) == n) {
+                return m;
+            }
+        }
+        return -1;
+    }
+
+    private void settles() {
+        begin("promise 14");
+        submitTwo(false);
+        for (int r = 0; r < 3; r++) {
+            check.due("executed", x.executed(r), 2);
+            check.due("stable", x.stable(r), 0);
+            message(checkpoint(r, 2), 7, r, 2, AFTER_TWO, 0);
+        }
+        check.due("slot(0, 2)", x.slot(0, 2), 1 + 2 + 4 + 16 + 192 + 1024);
+        take(0, checkpoint(1, 2));
+        check.due("stable(0) with two", x.stable(0), 0);
+        refuse(0, checkpoint(1, 2), checkpoint(0, 2));
+        take(0, checkpoint(2, 2));
+        check.due("stable(0) with three", x.stable(0), 2);
+        check.due("executed(0)", x.executed(0), 2);
+        check.due("state(0)", x.state(0), AFTER_TWO);
+        check.due("slot(0, 2)", x.slot(0, 2), -1);
+        check.due("ordered(0, 2)", x.ordered(0, 2), -2);
+        check.due("slot(0, 3)", x.slot(0, 3), 0);
+        check.due("slot(0, 5) shares nothing with number 1", x.slot(0, 5), 0);
+        check.due("slot(0, 6)", x.slot(0, 6), 0);
+        check.due("slot(0, 7)", x.slot(0, 7), -1);
+        check.due("stable(1)", x.stable(1), 0);
+    }
+
+    private void settlesOneThatLags() {
+        begin("a replica that lags takes the state");
+        submitTwo(true);
+        take(3, 0, 1);
+        check.due("timer(3)", x.timer(3), 4);
+        take(3, checkpoint(0, 2), checkpoint(1, 2), checkpoint(2, 2));
+        check.due("executed(3)", x.executed(3), 2);
+        check.due("stable(3)", x.stable(3), 2);
+        check.due("state(3)", x.state(3), AFTER_TWO);
+        check.due("waiting(3)", x.waiting(3), 0);
+        check.due("timer(3)", x.timer(3), 0);
+        int before = x.messages();
+        refuse(3, 0, 1, 2);
+        check.due("messages(): it sends no checkpoint of its own", x.messages(), before);
+    }
+
+    private void settlesAtTheGreatest() {
+        begin("the greatest number with three");
+        submitTwo(false);
+        submitTwo(false);
+        long afterFour = 5 + (6 << 4) + (2L << 16) + (5L << 24) + (2L << 28) + (6L << 36);
+        check.due("state(0)", x.state(0), afterFour);
+        // Number 4 has three, though number 2 has but two; 2 is past then.
+        take(3, checkpoint(0, 2), checkpoint(1, 2), checkpoint(0, 4), checkpoint(1, 4));
+        check.due("stable(3)", x.stable(3), 0);
+        take(3, checkpoint(2, 4));
+        check.due("stable(3)", x.stable(3), 4);
+        check.due("executed(3)", x.executed(3), 4);
+        check.due("state(3)", x.state(3), afterFour);
+        refuse(3, checkpoint(2, 2), checkpoint(2, 4));
+        // One that is ahead keeps what it has executed.
+        take(0, checkpoint(1, 2), checkpoint(2, 2));
+        check.due("stable(0)", x.stable(0), 2);
+        check.due("executed(0)", x.executed(0), 4);
+        check.due("state(0)", x.state(0), afterFour);
+        check.due("slot(0, 3)", x.slot(0, 3), 1 + 2 + 4 + 16 + 192 + 1024);
+    }
+
+    private void needsThreeOfOneState() {
+        begin("three of one state");
+        x.corrupt(3);
+        submitTwo(false);
+        int lie = x.forgeCheckpoint(2, AFTER_TWO + 1);
+        int truth = x.forgeCheckpoint(2, AFTER_TWO);
+        take(0, lie);
+        refuse(0, truth);
+        take(0, checkpoint(1, 2));
+        check.due("stable(0)", x.stable(0), 0);
+        take(0, checkpoint(2, 2));
+        check.due("stable(0)", x.stable(0), 2);
+        take(1, truth, checkpoint(0, 2));
+        check.due("stable(1)", x.stable(1), 2);
+        int far = x.forgeCheckpoint(1000, 7);
+        take(2, far);
+        refuse(2, far, x.forgeCheckpoint(1000, 8), x.forgeCheckpoint(1001, 8));
+        check.due("stable(2)", x.stable(2), 0);
+        // A certified checkpoint makes a VIEW-CHANGE from it valid, from the third one on.
+        check.due("look", x.look(x.forge(5, 1, 2, 0), 5), 1);
+        check.due("look", x.look(x.forge(5, 1, 1000, 0), 5), 0);
+    }
+
+    private void holdsTheWindow() {
+        begin("a full window");
+        submitTwo(false);
+        submitTwo(false);
+        check.due("executed(0)", x.executed(0), 4);
+        check.due("stable(0)", x.stable(0), 0);
+        int before = x.messages();
+        x.submit(0, 2, 0, 1);
+        take(0, before);
+        check.due("messages(): number 5 is not in the window", x.messages(), before + 1);
+        check.due("waiting(0)", x.waiting(0), 1);
+        check.due("timer(0)", x.timer(0), 4);
+        take(0, checkpoint(1, 2));
+        check.due("messages()", x.messages(), before + 1);
+        take(0, checkpoint(2, 2));
+        check.due("stable(0)", x.stable(0), 2);
+        message(before + 1, 1, 0, 0, 5, before);
+        check.due("slot(0, 5)", x.slot(0, 5), 1);
+        check.due("slot(0, 4)", x.slot(0, 4), 1 + 2 + 4 + 16 + 192 + 1024);
+        refuse(1, before + 1);
+        take(1, checkpoint(0, 2), checkpoint(2, 2), before + 1);
+        check.due("slot(1, 5)", x.slot(1, 5), 9);
+        take(0, checkpoint(1, 4), checkpoint(2, 4));
+        check.due("stable(0)", x.stable(0), 4);
+        check.due("slot(0, 5) stays", x.slot(0, 5), 1);
+        check.due("slot(0, 8)", x.slot(0, 8), 0);
+    }
+
+    private void movesTheWindow() {
+        begin("many requests");
+        for (int i = 0; i < 4; i++) {
+            submitTwo(true);
+        }
+        for (int r = 0; r < 3; r++) {
+            check.due("executed", x.executed(r), 8);
+            check.due("stable", x.stable(r), 8);
+        }
+        check.due("slot(0, 8)", x.slot(0, 8), -1);
+        check.due("slot(0, 9)", x.slot(0, 9), 0);
+        check.due("slot(0, 12)", x.slot(0, 12), 0);
+        check.due("answer(1)", x.answer(1), 6);
+    }
+
+    private void entersWithAStart() {
+        begin("a NEW-VIEW with a start");
+        submitTwo(true);
+        int request = x.messages();
+        x.submit(0, 2, 0, 3);
+        take(1, request);
+        take(2, request);
+        take(3, request);
+        for (int i = 0; i < 4; i++) {
+            x.tick(1);
+            x.tick(2);
+        }
+        int one = request + 1;
+        int two = request + 2;
+        message(one, 5, 1, 1, 2, 0);
+        message(two, 5, 2, 1, 2, 0);
+        // Replica 3 has seen nothing: its own VIEW-CHANGE starts from 0.
+        take(3, one, two);
+        int three = request + 3;
+        message(three, 5, 3, 1, 0, 0);
+        take(1, two, three);
+        int newView = request + 4;
+        message(newView, 6, 1, 1, one + 256 * two + 65536 * three, 0);
+        check.due("look(.., 5)", x.look(newView, 5), 1);
+        message(newView + 1, 1, 1, 1, 3, request);
+        refuse(3, newView + 1);
+        take(3, newView);
+        check.due("view(3)", x.view(3), 1);
+        check.due("stable(3)", x.stable(3), 2);
+        check.due("executed(3)", x.executed(3), 2);
+        check.due("state(3)", x.state(3), AFTER_TWO);
+        check.due("timer(3)", x.timer(3), 8);
+        take(3, newView + 1);
+        message(newView + 2, 2, 3, 1, 3, request);
+        check.due("slot(3, 3)", x.slot(3, 3), 9);
+    }
+}
