@@ -36,8 +36,8 @@ public final class ThreePhaseGroup {
 
     private static final int EMPTY = -1;
     private static final int NONE = -2;
-    // No field of a message that is noted by this mark can have this value: they are all ints.
-    private static final long UNNOTED = Long.MIN_VALUE;
+    // Larger than any int, so that no request or result that a message names can be taken for it.
+    private static final long UNNOTED = 1L << 40;
 
     private final Board board = new Board();
     private final Replica[] replicas = new Replica[REPLICAS];
@@ -348,7 +348,7 @@ public final class ThreePhaseGroup {
         }
 
         private boolean isValidViewChange(int m) {
-            if (!isChangedView(a[m]) || (c[m] >>> 20) != 0 || !isCertified(b[m], m)) {
+            if (!isChangedView(a[m]) || (c[m] >>> 20) != 0 || (b[m] != 0 && certificate(b[m], m) == NONE)) {
                 return false;
             }
             int checkpoint = (int) b[m];
@@ -377,10 +377,6 @@ public final class ThreePhaseGroup {
             return Integer.bitCount(voters) == 3 && ordersDue(votes) == c[m];
         }
 
-        private boolean isCertified(long n, int below) {
-            return n == 0 || certificate(n, below) != NONE;
-        }
-
         /** A CHECKPOINT for n whose state three replicas stand for below that message; NONE without one. */
         int certificate(long n, int below) {
             for (int m = 0; m < below; m++) {
@@ -403,12 +399,14 @@ public final class ThreePhaseGroup {
 
         /** The request that backs the view and n below that message; NONE without one. */
         private int backing(int view, int n, int below) {
+            int primary = primaryOf(view);
             for (int m = 0; m < below; m++) {
-                if (!isBackupPrepare(m, view, n)) {
+                if (!isPrepare(m, view, n) || sender[m] == primary) {
                     continue;
                 }
                 for (int other = m + 1; other < below; other++) {
-                    if (isBackupPrepare(other, view, n) && c[other] == c[m] && sender[other] != sender[m]) {
+                    if (isPrepare(other, view, n) && sender[other] != primary
+                            && sender[other] != sender[m] && c[other] == c[m]) {
                         return c[m];
                     }
                 }
@@ -416,8 +414,8 @@ public final class ThreePhaseGroup {
             return NONE;
         }
 
-        private boolean isBackupPrepare(int m, int view, int n) {
-            return kind[m] == PREPARE && a[m] == view && b[m] == n && sender[m] != primaryOf(view);
+        private boolean isPrepare(int m, int view, int n) {
+            return kind[m] == PREPARE && a[m] == view && b[m] == n;
         }
 
         private static int voteOf(int votes, int i) {
@@ -475,25 +473,26 @@ public final class ThreePhaseGroup {
     private static final class Slot {
         final long[] prepares = new long[REPLICAS];
         final long[] commits = new long[REPLICAS];
-        int accepted = NONE;
+        int accepted;
         int decided = NONE;
-        // CERT's request is shown nowhere: the board tells it again by what backs this view.
-        int certView = NONE;
+        // 1 + CERT's view, 0 without it. Its request is not kept: what backs that view on the board tells it again.
+        int claim = 0;
 
         Slot() {
-            Arrays.fill(prepares, UNNOTED);
-            Arrays.fill(commits, UNNOTED);
+            forgetView();
         }
 
         void forgetView() {
             accepted = NONE;
-            Arrays.fill(prepares, UNNOTED);
-            Arrays.fill(commits, UNNOTED);
+            for (int r = 0; r < REPLICAS; r++) {
+                prepares[r] = UNNOTED;
+                commits[r] = UNNOTED;
+            }
         }
 
         void forgetProofs() {
             decided = NONE;
-            certView = NONE;
+            claim = 0;
         }
 
         int countPrepares() {
@@ -515,15 +514,12 @@ public final class ThreePhaseGroup {
         }
 
         int summary(int owner) {
-            int sum = 8 * countPrepares() + 64 * countCommits();
+            int sum = 8 * countPrepares() + 64 * countCommits() + 1024 * claim;
             if (accepted != NONE) {
                 sum += commits[owner] != UNNOTED ? 3 : 1;
             }
             if (decided != NONE) {
                 sum += 4;
-            }
-            if (certView != NONE) {
-                sum += 1024 * (1 + certView);
             }
             return sum;
         }
@@ -736,7 +732,7 @@ public final class ThreePhaseGroup {
             for (int n = stable + 1; n <= stable + WINDOW; n++) {
                 Slot slot = slotAt(n);
                 if (slot.accepted != NONE && slot.commits[self] == UNNOTED && slot.countPrepares() >= 2) {
-                    slot.certView = view;
+                    slot.claim = 1 + view;
                     board.post(COMMIT, self, view, n, slot.accepted);
                     slot.commits[self] = slot.accepted;
                     return true;
@@ -921,8 +917,7 @@ public final class ThreePhaseGroup {
             span = Math.min(2 * span, LONGEST_SPAN);
             int claims = 0;
             for (int j = 0; j < WINDOW; j++) {
-                int certView = slotAt(stable + 1 + j).certView;
-                claims |= (certView == NONE ? 0 : 1 + certView) << (5 * j);
+                claims |= slotAt(stable + 1 + j).claim << (5 * j);
             }
             viewChanges[self] = board.post(VIEW_CHANGE, self, view, stable, claims);
         }

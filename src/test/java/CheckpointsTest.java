@@ -15,6 +15,9 @@ public final class CheckpointsTest {
         test.holdsTheWindow();
         test.movesTheWindow();
         test.entersWithAStart();
+        test.certifies(AFTER_TWO, true);
+        test.certifies(AFTER_TWO + 1, false);
+        test.executesAfterSettling();
         test.check.end();
     }
 
@@ -134,6 +137,12 @@ public final class CheckpointsTest {
         check.due("executed(0)", x.executed(0), 4);
         check.due("state(0)", x.state(0), afterFour);
         check.due("slot(0, 3)", x.slot(0, 3), 1 + 2 + 4 + 16 + 192 + 1024);
+        // One that passes its whole window at once keeps nothing of it.
+        take(1, checkpoint(0, 4), checkpoint(2, 4));
+        check.due("stable(1)", x.stable(1), 4);
+        for (int n = 5; n <= 8; n++) {
+            check.due("slot(1, " + n + ")", x.slot(1, n), 0);
+        }
     }
 
     private void needsThreeOfOneState() {
@@ -157,6 +166,52 @@ public final class CheckpointsTest {
         // A certified checkpoint makes a VIEW-CHANGE from it valid, from the third one on.
         check.due("look", x.look(x.forge(5, 1, 2, 0), 5), 1);
         check.due("look", x.look(x.forge(5, 1, 1000, 0), 5), 0);
+    }
+
+    // Replica 3 says its checkpoint before all else; replicas 0 and 1 come to theirs with its help, 0 before 1.
+    private void certifies(long forged, boolean right) {
+        begin("certified with " + forged);
+        x.corrupt(3);
+        check.due("forgeCheckpoint", x.forgeCheckpoint(2, forged), 0);
+        x.submit(0, 1, 0, 5);
+        x.submit(1, 1, 1, 6);
+        for (int n = 1; n <= 2; n++) {
+            x.forge(2, 0, n, n);
+            x.forge(3, 0, n, n);
+        }
+        x.pump(0, 3);
+        x.pump(1, 8);
+        x.pump(1, 8);
+        x.pump(0, 8);
+        x.pump(0, 8);
+        check.due("executed(0)", x.executed(0), 2);
+        check.due("executed(1)", x.executed(1), 0);
+        check.due("look(.., 5) with two", x.look(x.forge(5, 1, 2, 0), 5), 0);
+        x.pump(1, 8);
+        check.due("executed(1)", x.executed(1), 2);
+        check.due("look(.., 5) with three", x.look(x.forge(5, 1, 2, 0), 5), right ? 1 : 0);
+        take(2, 0, checkpoint(0, 2), checkpoint(1, 2));
+        check.due("stable(2)", x.stable(2), right ? 2 : 0);
+        check.due("state(2)", x.state(2), right ? AFTER_TWO : 0);
+    }
+
+    private void executesAfterSettling() {
+        begin("what was decided ahead is executed after settling");
+        submitTwo(true);
+        int request = x.messages();
+        x.submit(0, 2, 0, 3);
+        spread(true);
+        check.due("executed(0)", x.executed(0), 3);
+        for (int m = request; m < x.messages(); m++) {
+            x.deliver(m, 3);
+        }
+        check.due("slot(3, 3)", x.slot(3, 3) & 4, 4);
+        check.due("executed(3)", x.executed(3), 0);
+        take(3, checkpoint(0, 2), checkpoint(1, 2), checkpoint(2, 2));
+        check.due("stable(3)", x.stable(3), 2);
+        check.due("executed(3)", x.executed(3), 3);
+        check.due("state(3)", x.state(3), AFTER_TWO - (1L << 16) + 3 + (2L << 16) + (8L << 24));
+        message(x.messages() - 1, 4, 3, 0, 2, 8);
     }
 
     private void holdsTheWindow() {

@@ -273,6 +273,9 @@ public final class ViewsTest {
         check.due("ordered(2, 1)", x.ordered(2, 1), 1);
         check.due("slot(2, 1) keeps the old CERT", x.slot(2, 1), 1 + 1024);
         message(empty + 2, 1, 2, 2, 2, 0);
+        int otherOrder = claimOfThree + 256 * claimOfTwo + 65536 * empty;
+        valid(x.forge(6, 2, otherOrder, 3), true);
+        valid(x.forge(6, 2, otherOrder, 2), false);
     }
 
     private void entersFromAnOldView() {
@@ -349,6 +352,15 @@ public final class ViewsTest {
         valid(stillEarly, false);
         valid(late, true);
 
+        begin("a claim backed by the first message of all");
+        x.corrupt(3);
+        check.due("forge", x.forge(2, 0, 1, 1), 0);
+        x.submit(0, 1, 0, 5);
+        take(0, 1);
+        valid(x.forge(5, 1, 0, 1), false);
+        take(1, 2);
+        valid(x.forge(5, 1, 0, 1), true);
+
         begin("a claim needs two that name one request");
         x.submit(0, 1, 0, 5);
         take(0, 0);
@@ -391,6 +403,8 @@ public final class ViewsTest {
         int strange = x.forge(6, 1, votes, 2);
         valid(strange, true);
         refuse(2, strange);
+        // And it is no vote itself.
+        valid(x.forge(6, 1, strange + 256 * two + 65536 * three, 0), false);
 
         begin("a vote lies below the NEW-VIEW");
         x.corrupt(1);
