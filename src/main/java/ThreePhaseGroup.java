@@ -13,8 +13,9 @@ public final class ThreePhaseGroup {
     private static final int LONGEST_PUMP = 8;
 
     private static final int BOARD_FULL = 150;
-    // One delivery or tick sends at most twenty messages, so a board that was not full ends far below this.
-    private static final int BOARD_ROOM = 192;
+    // One delivery or tick sends at most twenty messages, so a board that was not full ends far below this;
+    // and each of a NEW-VIEW's votes, 0 .. 255, is a place on it.
+    private static final int BOARD_ROOM = 256;
     // Each rule uses up something that there is little of, so no run comes near this.
     private static final int RULE_LIMIT = 100000;
 
