@@ -1,11 +1,5 @@
 /** Checkpoints, the window, and what a replica that lagged behind is brought to by them. */
-public final class CheckpointsTest {
-    private static final long AFTER_TWO = 5 + (6 << 4) + (1L << 16) + (1L << 28);
-
-    private final Check check = new Check();
-    private final int[] given = new int[6];
-    private ThreePhaseGroup x;
-
+public final class CheckpointsTest extends Scene {
     public static void main(String[] args) {
         CheckpointsTest test = new CheckpointsTest();
         test.settles();
@@ -18,62 +12,7 @@ public final class CheckpointsTest {
         test.certifies(AFTER_TWO, true);
         test.certifies(AFTER_TWO + 1, false);
         test.executesAfterSettling();
-        test.check.end();
-    }
-
-    private void begin(String name) {
-        check.part(name);
-        x = new ThreePhaseGroup();
-        java.util.Arrays.fill(given, 0);
-    }
-
-    private void take(int party, int... numbers) {
-        for (int m : numbers) {
-            check.due("deliver(" + m + ", " + party + ")", x.deliver(m, party), true);
-        }
-    }
-
-    private void refuse(int party, int... numbers) {
-        for (int m : numbers) {
-            check.due("deliver(" + m + ", " + party + ")", x.deliver(m, party), false);
-        }
-    }
-
-    private void message(int m, long kind, long sender, long a, long b, long c) {
-        long[] want = {kind, sender, a, b, c};
-        for (int k = 0; k < want.length; k++) {
-            check.due("look(" + m + ", " + k + ")", x.look(m, k), want[k]);
-        }
-    }
-
-    // Gives each message to replicas 0, 1, 2 and to the clients; checkpoints only if they shall come through.
-    private void spread(boolean checkpoints) {
-        int[] parties = {0, 1, 2, 4, 5};
-        for (int round = 0; round < 30; round++) {
-            for (int party : parties) {
-                for (; given[party] < x.messages(); given[party]++) {
-                    if (checkpoints || x.look(given[party], 0) != 7) {
-                        x.deliver(given[party], party);
-                    }
-                }
-            }
-        }
-    }
-
-    private void submitTwo(boolean checkpoints) {
-        x.submit(0, 1, 0, 5);
-        x.submit(1, 1, 1, 6);
-        spread(checkpoints);
-    }
-
-    // The number of the replica's CHECKPOINT for n.
-    private int checkpoint(int r, int n) {
-        for (int m = 0; m < x.messages(); m++) {
-            if (x.look(m, 0) == 7 && x.look(m, 1) == r && x.look(m, 2) == n) {
-                return m;
-            }
-        }
-        return -1;
+        test.end();
     }
 
     private void settles() {
@@ -121,21 +60,20 @@ public final class CheckpointsTest {
         begin("the greatest number with three");
         submitTwo(false);
         submitTwo(false);
-        long afterFour = 5 + (6 << 4) + (2L << 16) + (5L << 24) + (2L << 28) + (6L << 36);
-        check.due("state(0)", x.state(0), afterFour);
+        check.due("state(0)", x.state(0), AFTER_FOUR);
         // Number 4 has three, though number 2 has but two; 2 is past then.
         take(3, checkpoint(0, 2), checkpoint(1, 2), checkpoint(0, 4), checkpoint(1, 4));
         check.due("stable(3)", x.stable(3), 0);
         take(3, checkpoint(2, 4));
         check.due("stable(3)", x.stable(3), 4);
         check.due("executed(3)", x.executed(3), 4);
-        check.due("state(3)", x.state(3), afterFour);
+        check.due("state(3)", x.state(3), AFTER_FOUR);
         refuse(3, checkpoint(2, 2), checkpoint(2, 4));
         // One that is ahead keeps what it has executed.
         take(0, checkpoint(1, 2), checkpoint(2, 2));
         check.due("stable(0)", x.stable(0), 2);
         check.due("executed(0)", x.executed(0), 4);
-        check.due("state(0)", x.state(0), afterFour);
+        check.due("state(0)", x.state(0), AFTER_FOUR);
         check.due("slot(0, 3)", x.slot(0, 3), 1 + 2 + 4 + 16 + 192 + 1024);
         // One that passes its whole window at once keeps nothing of it.
         take(1, checkpoint(0, 4), checkpoint(2, 4));

@@ -3,17 +3,20 @@ import java.util.List;
 import java.util.Random;
 
 /**
- * Long runs of chosen-by-seed calls on the program and on SlowGroup side by side: after each call all that can be
- * seen must be the same. The argument, if there is one, is the number of runs.
+ * Long runs of chosen-by-seed calls on the program and on SlowGroup side by side: after each call what can be seen
+ * must be the same. The argument, if there is one, is the number of runs.
  */
 public final class ModelTest {
-    private static final int CALLS = 512;
+    private static final int CALLS = 500;
+    // Between these calls only the replica that was called is looked at.
+    private static final int FULL_LOOK = 16;
 
     private final Check check = new Check();
     private final Random random;
-    private ThreePhaseGroup x = new ThreePhaseGroup();
-    private SlowGroup model = new SlowGroup();
+    private final Renewed x = new Renewed();
+    private final SlowGroup model = new SlowGroup();
     private int looked = 0;
+    private int touched = -1;
     // How wild a run is: the share of ticks, forgeries and single deliveries differs from run to run.
     private int tickShare;
     private int forgeShare;
@@ -60,8 +63,9 @@ public final class ModelTest {
         ticked = random.nextInt(16) == 0 ? random.nextInt(4) : -1;
         for (int i = 0; i < CALLS && check.wrong() == 0; i++) {
             check.part("run " + seed + ", call " + i);
+            touched = -1;
             call(i);
-            compare();
+            compare(i % FULL_LOOK == FULL_LOOK - 1 || i == CALLS - 1);
         }
         return check.wrong();
     }
@@ -96,24 +100,28 @@ public final class ModelTest {
             int r = any(-1, 4);
             check.due("corrupt(" + r + ")", x.corrupt(r), model.corrupt(r));
         } else if (ticked >= 0 && i > 20 && chance(94)) {
-            check.due("tick(" + ticked + ")", x.tick(ticked), model.tick(ticked));
+            tick(ticked);
         } else if (chance(tickShare)) {
-            int r = any(0, 3);
-            check.due("tick(" + r + ")", x.tick(r), model.tick(r));
+            tick(any(0, 3));
         } else if (chance(1)) {
-            int r = any(-1, 4);
-            check.due("tick(" + r + ")", x.tick(r), model.tick(r));
+            tick(any(-1, 4));
         } else if (chance(forgeShare)) {
             forge();
         } else if (chance(deliverShare)) {
             int m = chance(60) ? any(model.messages() - 12, model.messages()) : any(-1, model.messages());
             int party = chance(5) ? any(-1, 6) : any(0, 5);
+            touched = party;
             check.due("deliver(" + m + ", " + party + ")", x.deliver(m, party), model.deliver(m, party));
         } else if (chance(20)) {
             submit();
         } else {
             pump(i);
         }
+    }
+
+    private void tick(int r) {
+        touched = r;
+        check.due("tick(" + r + ")", x.tick(r), model.tick(r));
     }
 
     private void submit() {
@@ -134,6 +142,7 @@ public final class ModelTest {
         if (party == sleeper && i < 350) {
             party = (party + 1) % 4;
         }
+        touched = party;
         check.due("pump(" + party + ", " + n + ")", x.pump(party, n), model.pump(party, n));
     }
 
@@ -233,7 +242,7 @@ public final class ModelTest {
         return chance(80) ? due : due ^ 1 << any(0, 31);
     }
 
-    private void compare() {
+    private void compare(boolean full) {
         check.due("messages()", x.messages(), model.messages());
         for (; looked < model.messages(); looked++) {
             for (int k = -1; k <= 6; k++) {
@@ -241,6 +250,14 @@ public final class ModelTest {
             }
         }
         check.due("look(" + looked + ", 0)", x.look(looked, 0), -1);
+        check.due("mark(" + touched + ")", x.mark(touched), model.mark(touched));
+        compareReplica(touched);
+        if (full) {
+            compareAll();
+        }
+    }
+
+    private void compareAll() {
         for (int party = -1; party <= 6; party++) {
             check.due("mark(" + party + ")", x.mark(party), model.mark(party));
         }
@@ -272,7 +289,7 @@ public final class ModelTest {
     private void compareCorrect() {
         for (int r = 0; r < 4; r++) {
             for (int other = 0; other < r; other++) {
-                if (r != model.faulty && other != model.faulty && x.executed(r) == x.executed(other)) {
+                if (r != model.faulty && other != model.faulty && model.executed(r) == model.executed(other)) {
                     check.due("state(" + r + ") beside state(" + other + ")", x.state(r), x.state(other));
                 }
             }

@@ -1,8 +1,5 @@
 /** Each promise 1 to 21 by itself: ordinary inputs, the edges that the document names, and wrong inputs. */
-public final class PromisesTest {
-    private final Check check = new Check();
-    private ThreePhaseGroup x;
-
+public final class PromisesTest extends Scene {
     public static void main(String[] args) {
         PromisesTest test = new PromisesTest();
         test.newObject();
@@ -25,35 +22,11 @@ public final class PromisesTest {
         test.timers();
         test.waits();
         test.asks();
-        test.check.end();
-    }
-
-    private void begin(String name) {
-        check.part(name);
-        x = new ThreePhaseGroup();
+        test.end();
     }
 
     private void deliver(int m, int party, boolean want) {
         check.due("deliver(" + m + ", " + party + ")", x.deliver(m, party), want);
-    }
-
-    private void take(int party, int... numbers) {
-        for (int m : numbers) {
-            deliver(m, party, true);
-        }
-    }
-
-    private void refuse(int party, int... numbers) {
-        for (int m : numbers) {
-            deliver(m, party, false);
-        }
-    }
-
-    private void message(int m, long kind, long sender, long a, long b, long c) {
-        long[] want = {kind, sender, a, b, c};
-        for (int k = 0; k < want.length; k++) {
-            check.due("look(" + m + ", " + k + ")", x.look(m, k), want[k]);
-        }
     }
 
     // Brings request 0, the only message, to a commit of replicas 1 (message 4), 2 (5) and 0 (6).
@@ -65,14 +38,6 @@ public final class PromisesTest {
         take(2, 2);
         take(0, 2, 3);
         check.due("messages()", x.messages(), 7);
-    }
-
-    private void flood(int parties) {
-        for (int round = 0; round < 60; round++) {
-            for (int party = 0; party < parties; party++) {
-                x.pump(party, 8);
-            }
-        }
     }
 
     private void newObject() {
@@ -125,14 +90,14 @@ public final class PromisesTest {
         begin("promise 2, timestamps");
         check.due("submit", x.submit(0, 1, 0, 3), 0);
         check.due("refused", x.submit(0, 1, 0, 4), -1);
-        flood(5);
+        flood(0, 1, 2, 3, 4);
         check.due("outstanding(0)", x.outstanding(0), 0);
         check.due("answer(0)", x.answer(0), 0);
         int m = x.submit(0, 0, 0, 0);
         check.due("timestamp", x.look(m, 2), 2);
         check.due("outstanding(0)", x.outstanding(0), 2);
         check.due("outstanding(1)", x.outstanding(1), 0);
-        flood(5);
+        flood(0, 1, 2, 3, 4);
         check.due("answer(0)", x.answer(0), 3);
     }
 
@@ -511,7 +476,7 @@ public final class PromisesTest {
         };
         for (long[] call : calls) {
             x.submit((int) call[0], (int) call[1], (int) call[2], (int) call[3]);
-            flood(6);
+            flood(0, 1, 2, 3, 4, 5);
             check.due("answer", x.answer((int) call[0]), call[4]);
         }
         long values = (2 << 4) + (7 << 12);
@@ -525,7 +490,7 @@ public final class PromisesTest {
 
         begin("promise 15, the result of client 1");
         x.submit(1, 2, 0, 13);
-        flood(6);
+        flood(0, 1, 2, 3, 4, 5);
         check.due("state(2)", x.state(2), 13 + (1L << 28) + (13L << 36));
     }
 
@@ -548,7 +513,7 @@ public final class PromisesTest {
         check.due("slot(0, 2)", x.slot(0, 2), 1 + 2 + 4 + 16 + 192 + 1024);
         check.due("executed(0)", x.executed(0), 0);
         check.due("timer(0)", x.timer(0), 4);
-        flood(6);
+        flood(0, 1, 2, 3, 4, 5);
         check.due("executed(0)", x.executed(0), 2);
         check.due("state(0)", x.state(0), 1 + (1L << 16) + (2L << 24) + (1L << 28));
     }
@@ -574,7 +539,7 @@ public final class PromisesTest {
         take(0, 7, 8);
         check.due("executed(0)", x.executed(0), 1);
         check.due("timer(0) anew, as a request was executed", x.timer(0), 4);
-        flood(6);
+        flood(0, 1, 2, 3, 4, 5);
         check.due("timer(0) stops, as none waits", x.timer(0), 0);
         check.due("tick(0)", x.tick(0), false);
     }
@@ -588,7 +553,7 @@ public final class PromisesTest {
         take(3, 0);
         check.due("waiting(3)", x.waiting(3), 2);
         check.due("waiting(0)", x.waiting(0), 0);
-        flood(4);
+        flood(0, 1, 2, 3);
         for (int r = 0; r < 4; r++) {
             check.due("waiting", x.waiting(r), 0);
         }

@@ -1,8 +1,5 @@
 /** Timers, changes of view, and what is valid in them. */
-public final class ViewsTest {
-    private final Check check = new Check();
-    private ThreePhaseGroup x;
-
+public final class ViewsTest extends Scene {
     public static void main(String[] args) {
         ViewsTest test = new ViewsTest();
         test.changesWithoutClaims();
@@ -17,52 +14,7 @@ public final class ViewsTest {
         test.judgesNewViews();
         test.doublesTheSpan();
         test.stopsInTheLastView();
-        test.check.end();
-    }
-
-    private void begin(String name) {
-        check.part(name);
-        x = new ThreePhaseGroup();
-    }
-
-    private void take(int party, int... numbers) {
-        for (int m : numbers) {
-            check.due("deliver(" + m + ", " + party + ")", x.deliver(m, party), true);
-        }
-    }
-
-    private void refuse(int party, int... numbers) {
-        for (int m : numbers) {
-            check.due("deliver(" + m + ", " + party + ")", x.deliver(m, party), false);
-        }
-    }
-
-    private void message(int m, long kind, long sender, long a, long b, long c) {
-        long[] want = {kind, sender, a, b, c};
-        for (int k = 0; k < want.length; k++) {
-            check.due("look(" + m + ", " + k + ")", x.look(m, k), want[k]);
-        }
-    }
-
-    private void valid(int m, boolean want) {
-        check.due("look(" + m + ", 5)", x.look(m, 5), want ? 1 : 0);
-    }
-
-    // Ticks until the replica begins a change; the number of its VIEW-CHANGE.
-    private int expire(int r) {
-        int before = x.view(r) % 16;
-        for (int i = 0; i < 40 && x.view(r) % 16 == before; i++) {
-            x.tick(r);
-        }
-        return x.messages() - 1;
-    }
-
-    private void flood(int... parties) {
-        for (int round = 0; round < 60; round++) {
-            for (int party : parties) {
-                x.pump(party, 8);
-            }
-        }
+        test.end();
     }
 
     private void changesWithoutClaims() {
