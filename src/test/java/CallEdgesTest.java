@@ -545,13 +545,20 @@ public final class CallEdgesTest extends Scene {
     private void asksReplicas() {
         begin("12 to 19: no such replica");
         submitTwo(true);
-        x.submit(0, 1, 0, 9);
+        int request = x.submit(0, 1, 0, 9);
         for (int r = 0; r < 4; r++) {
-            take(r, last());
-            x.tick(r);
-            if (r == 0) {
-                check.due("PRE-PREPARE", find(PRE_PREPARE, 0, 0, 3), last());
-            }
+            take(r, request);
+            check.due("tick(" + r + ")", x.tick(r), true);
+        }
+        for (int r = 0; r < 4; r++) {
+            check.due("view(" + r + ")", x.view(r), 0);
+            check.due("executed(" + r + ")", x.executed(r), r < 3 ? 2 : 0);
+            check.due("stable(" + r + ")", x.stable(r), r < 3 ? 2 : 0);
+            check.due("state(" + r + ")", x.state(r), r < 3 ? AFTER_TWO : 0);
+            check.due("slot(" + r + ", 3)", x.slot(r, 3), r == 0 ? ACCEPTED : 0);
+            check.due("ordered(" + r + ", 3)", x.ordered(r, 3), r == 0 ? request : -2);
+            check.due("timer(" + r + ")", x.timer(r), 3);
+            check.due("waiting(" + r + ")", x.waiting(r), 1);
         }
         for (int r : NO_REPLICA) {
             check.due("view(" + r + ")", x.view(r), -1);

@@ -132,7 +132,7 @@ public final class RuleEdgesTest extends Scene {
         check.due("PREPAREs of 0", count(PREPARE, 0, 0, 1), 0);
     }
 
-    // Number 2 alone is prepared in view 0, by replicas 1 and 2; replica 1 opens view 1 with the empty request before it.
+    // Number 2 alone is prepared in view 0, by replicas 1 and 2; replica 1 opens view 1 with the empty request at 1.
     private int openWithAGap() {
         x.submit(0, 1, 0, 5);
         x.submit(1, 1, 1, 6);
@@ -692,8 +692,10 @@ public final class RuleEdgesTest extends Scene {
         take(2, 0);
         check.due("timer(2)", x.timer(2), 4);
         x.tick(2);
-        take(2, 1);
+        refuse(2, 0);
         check.due("timer(2) runs on", x.timer(2), 3);
+        take(2, 1);
+        check.due("timer(2) runs on, also after one that was not taken", x.timer(2), 3);
         x.tick(2);
         x.tick(2);
         check.due("timer(2) at its last step", x.timer(2), 1);
