@@ -35,6 +35,7 @@ public final class CallEdgesTest extends Scene {
         test.forgesCheckpoints();
         test.forgesCheckpointsUntilFull();
         test.fillsBeyondTheEdge();
+        test.fillsFarBeyondTheEdge();
         test.countsMessages();
         test.looksAtMessages();
         test.looksAtFields();
@@ -467,6 +468,45 @@ public final class CallEdgesTest extends Scene {
         refuse(4, 151);
         check.due("pump(4, 8)", x.pump(4, 8), 0);
         check.due("mark(4)", x.mark(4), 0);
+    }
+
+    // Replicas 1, 2, 3 have executed four requests; the primary lacks one PREPARE for the first of them, and then does
+    // all of it at once, settles, and orders the next two.
+    private void fillsFarBeyondTheEdge() {
+        begin("BOARD: nine messages by one delivery, on a board that was not full");
+        for (int i = 0; i < 2; i++) {
+            x.submit(0, 2, 0, 1);
+            x.submit(1, 2, 1, 1);
+            take(0, last() - 1, last());
+            spread(true, 1, 2, 3, 4, 5);
+        }
+        check.due("executed(1)", x.executed(1), 4);
+        check.due("outstanding(0)", x.outstanding(0), 0);
+        check.due("outstanding(1)", x.outstanding(1), 0);
+        for (int n = 1; n <= 4; n++) {
+            take(0, find(PREPARE, 1, 0, n), find(COMMIT, 1, 0, n), find(COMMIT, 2, 0, n));
+        }
+        for (int n = 2; n <= 4; n++) {
+            take(0, find(PREPARE, 2, 0, n));
+        }
+        take(0, checkpoint(1, 4), checkpoint(2, 4));
+        int next = x.submit(0, 2, 0, 1);
+        take(0, next, x.submit(1, 2, 1, 1));
+        check.due("executed(0)", x.executed(0), 0);
+        x.corrupt(3);
+        fill(149);
+        take(0, find(PREPARE, 2, 0, 1));
+        message(149, COMMIT, 0, 0, 1, x.look(find(PREPARE, 2, 0, 1), 4));
+        message(150, REPLY, 0, 0, 1, 1);
+        message(151, REPLY, 0, 1, 1, 1);
+        message(152, CHECKPOINT, 0, 2, 0x1011010011L, 0);
+        check.due("messages()", x.messages(), 158);
+        message(156, PRE_PREPARE, 0, 0, 5, next);
+        message(157, PRE_PREPARE, 0, 0, 6, next + 1);
+        check.due("executed(0)", x.executed(0), 4);
+        check.due("stable(0)", x.stable(0), 4);
+        check.due("state(0)", x.state(0), x.state(1));
+        refuse(1, 156);
     }
 
     private void countsMessages() {

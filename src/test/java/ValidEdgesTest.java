@@ -22,6 +22,7 @@ public final class ValidEdgesTest extends Scene {
         test.newVotesForTheView();
         test.newOrdersToTheBit();
         test.newOrdersOfTheWindow();
+        test.newOrdersOfHighRequests();
         test.newOrdersFromTheStart();
         test.newOrdersByALowerCheckpoint();
         test.newOrdersBeforeAClaim();
@@ -469,6 +470,35 @@ public final class ValidEdgesTest extends Scene {
             valid(newView(1, votes, 2 ^ (1 << bit)), false);
         }
         valid(newView(1, votes, 0), false);
+    }
+
+    // Field c is an int, so the fourth order has its sign bit: set from request 126 on, since the order is 128 then.
+    private void newOrdersOfHighRequests() {
+        for (int request = 125; request <= 126; request++) {
+            begin("VALID NEW-VIEW: bits 24 to 31 of the orders, request " + request);
+            x.corrupt(0);
+            fill(request);
+            check.due("number", x.submit(0, 1, 2, 7), request);
+            int prePrepare = x.forge(PRE_PREPARE, 0, 4, request);
+            take(1, prePrepare);
+            take(2, prePrepare, find(PREPARE, 1, 0, 4));
+            take(3, request);
+            for (int r = 1; r < 4; r++) {
+                expire(r);
+            }
+            take(1, find(VIEW_CHANGE, 2, 1, 0), find(VIEW_CHANGE, 3, 1, 0));
+            int opened = newViewOf(1);
+            int due = request == 125 ? 0x7f010101 : 0x80010101;
+            check.due("orders", x.look(opened, 4), due);
+            valid(opened, true);
+            valid(newView(1, (int) x.look(opened, 3), due), true);
+            valid(newView(1, (int) x.look(opened, 3), due ^ MIN), false);
+            take(3, opened);
+            for (int r = 1; r <= 3; r += 2) {
+                check.due("ordered(" + r + ", 3)", x.ordered(r, 3), -1);
+                check.due("ordered(" + r + ", 4)", x.ordered(r, 4), request);
+            }
+        }
     }
 
     // Replicas 1, 2, 3 know a last request and change to view 1, which replica 1 opens; the NEW-VIEW's number.
